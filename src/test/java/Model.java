@@ -128,7 +128,7 @@ final class Model {
         }
         BigInteger x = registers[a];
         if (x.abs().bitLength() <= 1) {
-            return set(d, n == 0 || x.signum() >= 0 && x.signum() == 1 ? ONE : n % 2 == 0 ? x.abs() : x);
+            return set(d, n == 0 ? ONE : n % 2 == 0 ? x.abs() : x);
         }
         return n <= 65536 && (x.abs().bitLength() - 1L) * n <= 65536 && set(d, x.pow(n));
     }

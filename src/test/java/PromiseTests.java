@@ -476,7 +476,6 @@ public final class PromiseTests {
         done("by the greatest", mill.inverse(4, 2, 0), mill, 4, GREATEST.subtract(ONE));
         done("2^65535 by the greatest", mill.inverse(4, 1, 0), mill, 4, 2);
         refused("3 by the greatest", mill, x -> x.inverse(4, 3, 0));
-        mill = Due.with(5, 1);
         refusedWithoutRegister("inverse into", (x, r) -> x.inverse(r, 1, 0));
         refusedWithoutRegister("inverse of", (x, r) -> x.inverse(0, r, 1));
         refusedWithoutRegister("inverse by", (x, r) -> x.inverse(0, 1, r));
