@@ -42,7 +42,7 @@ public final class RoomTests {
         }
         done &= mill.put(13, -1) & mill.put(12, 3) & mill.change(11, 0, 7, 2) & mill.shift(10, 0, -46340 / 2);
         calls += 4;
-        for (; calls < 512; calls += 8) {
+        for (; calls + 8 <= 512; calls += 8) {
             mill.common(15, 0, 11);
             mill.inverse(15, 11, 0);
             mill.modulo(15, 11, 13, 0);
