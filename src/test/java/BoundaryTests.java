@@ -73,20 +73,20 @@ public final class BoundaryTests {
     }
 
     /** On an object with these numbers in registers 0, 1, .. the call puts what is due into register 9. */
-    private static void becomes(String what, BigInteger want, Predicate<SignedMill> call, long... values) {
-        SignedMill mill = Look.filled(x -> Look.values(x, values));
+    private static void becomes(String what, BigInteger want, Predicate<Mill> call, long... values) {
+        Mill mill = Look.filled(x -> Look.values(x, values));
         Look.done(what, call.test(mill), mill, 9, want);
     }
 
-    private static void becomes(String what, long want, Predicate<SignedMill> call, long... values) {
+    private static void becomes(String what, long want, Predicate<Mill> call, long... values) {
         becomes(what, big(want), call, values);
     }
 
     private static void newObject() {
         Look.sentence("Promise 1: All registers are 0.");
-        SignedMill used = new SignedMill();
+        Mill used = new Mill();
         Look.same("use of another object", used.put(3, 5) & used.put(15, -5), true);
-        SignedMill mill = new SignedMill();
+        Mill mill = new Mill();
         for (int r = 0; r < 16; r++) {
             Look.holds("register " + r, mill, r, 0);
         }
@@ -95,7 +95,7 @@ public final class BoundaryTests {
 
     private static void put() {
         Look.sentence("Promise 2: r becomes v.");
-        SignedMill mill = new SignedMill();
+        Mill mill = new Mill();
         long[] values = {0, 1, -1, 0x7FFFFFFFL, 0x80000000L, -0x80000000L, -0x80000001L, 0xFFFFFFFFL, 0x100000000L, -0x100000000L, -0x100000001L,
             Long.MAX_VALUE, Long.MIN_VALUE, Long.MIN_VALUE + 1};
         for (long v : values) {
@@ -113,11 +113,11 @@ public final class BoundaryTests {
         for (long bits : pushed) {
             BigInteger unsigned = new BigInteger(Long.toUnsignedString(bits));
             for (long v : new long[] {0, 1, Long.MAX_VALUE}) {
-                SignedMill mill = Look.filled(x -> Look.values(x, v));
+                Mill mill = Look.filled(x -> Look.values(x, v));
                 Look.done("push " + bits + " onto " + v, mill.push(0, bits), mill, 0, big(v).shiftLeft(64).add(unsigned));
             }
         }
-        SignedMill mill = new SignedMill();
+        Mill mill = new Mill();
         Look.ones(mill, 0, 65472);
         Look.done("all bits onto 2^65472 - 1", mill.push(0, -1), mill, 0, GREATEST);
         Look.ones(mill, 1, 65472);
@@ -126,7 +126,7 @@ public final class BoundaryTests {
 
     private static void pushBelow() {
         Look.sentence("Promise 3: what was below 0 stays so.");
-        SignedMill mill = Look.filled(x -> Look.values(x, -1, Long.MIN_VALUE, -3));
+        Mill mill = Look.filled(x -> Look.values(x, -1, Long.MIN_VALUE, -3));
         Look.done("-1, 0", mill.push(0, 0), mill, 0, Due.two(64).negate());
         Look.done("-2^63, all bits", mill.push(1, -1), mill, 1, Due.two(127).add(Due.two(64)).subtract(ONE).negate());
         Look.done("-3, 9", mill.push(2, 9), mill, 2, Due.two(64).multiply(big(3)).add(big(9)).negate());
@@ -144,7 +144,7 @@ public final class BoundaryTests {
 
     private static void spread() {
         Look.sentence("Promise 4: the sum of bits * 2^(64 * k) for k = 0 .. n - 1.");
-        SignedMill mill = Look.filled(x -> Look.values(x, -9));
+        Mill mill = Look.filled(x -> Look.values(x, -9));
         Look.done("0 times", mill.spread(0, -1, 0), mill, 0, 0);
         Look.done("once", mill.spread(0, -1, 1), mill, 0, Due.two(64).subtract(ONE));
         Look.done("once, the highest bit", mill.spread(0, Long.MIN_VALUE, 1), mill, 0, Due.two(63));
@@ -171,7 +171,7 @@ public final class BoundaryTests {
         becomes("-(1)", -1, x -> x.negate(9, 0), 1);
         becomes("-(-1)", 1, x -> x.negate(9, 0), -1);
         becomes("-(-2^63)", Due.two(63), x -> x.negate(9, 0), Long.MIN_VALUE);
-        SignedMill mill = Look.filled(x -> Look.values(x, 0));
+        Mill mill = Look.filled(x -> Look.values(x, 0));
         Look.same("-0 in place", mill.negate(0, 0) && mill.negate(1, 0), true);
         Look.same("-0 is 0", mill.compare(0, 1), 0);
         Look.greatest(mill, 2);
@@ -188,7 +188,7 @@ public final class BoundaryTests {
         becomes("a carry out of a word", 0x100000000L, x -> x.add(9, 0, 1), 0xFFFFFFFFL, 1);
         becomes("a carry into the highest bit of a long", Due.two(63), x -> x.add(9, 0, 1), Long.MAX_VALUE, 1);
         becomes("a carry out of a long", Due.two(64).negate(), x -> x.add(9, 0, 0), Long.MIN_VALUE);
-        SignedMill mill = Look.filled(x -> {
+        Mill mill = Look.filled(x -> {
             Look.greatest(x, 0);
             Look.least(x, 1);
             Look.same("put", x.put(2, 1) & x.put(3, -1) & x.take(4, 0, 2) & x.add(5, 1, 2), true);
@@ -210,7 +210,7 @@ public final class BoundaryTests {
         becomes("5 - 6", -1, x -> x.take(9, 0, 1), 5, 6);
         becomes("a borrow from a word", 0xFFFFFFFFL, x -> x.take(9, 0, 1), 0x100000000L, 1);
         becomes("a number less itself", 0, x -> x.take(9, 0, 0), 5);
-        SignedMill mill = Look.filled(x -> {
+        Mill mill = Look.filled(x -> {
             Look.greatest(x, 0);
             Look.least(x, 1);
             Look.same("put", x.put(2, 1) & x.put(3, -1) & x.take(4, 0, 2) & x.add(5, 1, 2), true);
@@ -233,7 +233,7 @@ public final class BoundaryTests {
         becomes("-5 * -6", 30, x -> x.times(9, 0, 1), -5, -6);
         becomes("5 * -6", -30, x -> x.times(9, 0, 1), 5, -6);
         becomes("-2^63 * -2^63", Due.two(126), x -> x.times(9, 0, 0), Long.MIN_VALUE);
-        SignedMill mill = Look.filled(x -> {
+        Mill mill = Look.filled(x -> {
             Look.ones(x, 0, 32768);
             Look.shifted(x, 1, 1, 32768);
             Look.shifted(x, 2, 1, 32767);
@@ -249,7 +249,7 @@ public final class BoundaryTests {
         Look.done("a third of the greatest * 3", mill.times(9, 7, 5), mill, 9, GREATEST);
         Look.done("2^65534 * -2", mill.times(9, 8, 6), mill, 9, Due.two(65535).negate());
         // As many bits as the products above together, but 1 too long.
-        Consumer<SignedMill> make = x -> {
+        Consumer<Mill> make = x -> {
             Look.ones(x, 0, 32768);
             Look.ones(x, 1, 32769);
             Look.shifted(x, 2, 1, 32768);
@@ -260,7 +260,7 @@ public final class BoundaryTests {
     }
 
     private static void divides(boolean down, long a, long b, long quotient, long rest) {
-        SignedMill mill = Look.filled(x -> Look.values(x, a, b));
+        Mill mill = Look.filled(x -> Look.values(x, a, b));
         String what = a + " by " + b;
         Look.done(what, mill.divide(9, 10, 0, 1, down), mill, 9, quotient);
         Look.holds(what + ", rest", mill, 10, rest);
@@ -279,14 +279,14 @@ public final class BoundaryTests {
         divides(false, 0, -2, 0, 0);
         divides(false, Long.MIN_VALUE, Long.MAX_VALUE, -1, -1);
         divides(false, Long.MAX_VALUE, Long.MIN_VALUE, 0, Long.MAX_VALUE);
-        SignedMill mill = longDivision();
+        Mill mill = longDivision();
         longDivides("the least by 2", mill, mill.divide(9, 10, 1, 2, false), Due.two(65535).subtract(ONE).negate(), big(-1));
         longDivides("-1 by the greatest", mill, mill.divide(9, 10, 3, 0, false), ZERO, big(-1));
         longDivides("the greatest by the least", mill, mill.divide(9, 10, 0, 1, false), big(-1), ZERO);
         longDivides("the greatest less 1 by the greatest", mill, mill.divide(9, 10, 4, 0, false), ZERO, GREATEST.subtract(ONE));
     }
 
-    private static SignedMill longDivision() {
+    private static Mill longDivision() {
         return Look.filled(x -> {
             Look.greatest(x, 0);
             Look.least(x, 1);
@@ -294,7 +294,7 @@ public final class BoundaryTests {
         });
     }
 
-    private static void longDivides(String what, SignedMill mill, boolean answer, BigInteger quotient, BigInteger rest) {
+    private static void longDivides(String what, Mill mill, boolean answer, BigInteger quotient, BigInteger rest) {
         Look.done(what, answer, mill, 9, quotient);
         Look.holds(what + ", rest", mill, 10, rest);
     }
@@ -313,7 +313,7 @@ public final class BoundaryTests {
         divides(true, -1, -2, 0, -1);
         divides(true, 0, -2, 0, 0);
         divides(true, Long.MIN_VALUE, Long.MAX_VALUE, -2, Long.MAX_VALUE - 1);
-        SignedMill mill = longDivision();
+        Mill mill = longDivision();
         longDivides("the least by 2", mill, mill.divide(9, 10, 1, 2, true), Due.two(65535).negate(), ONE);
         longDivides("-1 by the greatest", mill, mill.divide(9, 10, 3, 0, true), big(-1), GREATEST.subtract(ONE));
         longDivides("1 by the least", mill, mill.divide(9, 10, 5, 1, true), big(-1), LEAST.add(ONE));
@@ -327,7 +327,7 @@ public final class BoundaryTests {
             long a = (signs & 1) == 0 ? 1000003 : -1000003;
             long b = (signs & 2) == 0 ? 997 : -997;
             boolean down = (signs & 4) != 0;
-            SignedMill mill = Look.filled(x -> Look.values(x, a, b));
+            Mill mill = Look.filled(x -> Look.values(x, a, b));
             Look.same("divide", mill.divide(9, 10, 0, 1, down), true);
             Look.same("q * b + r", mill.times(11, 9, 1) && mill.add(11, 11, 10), true);
             Look.same("is a", mill.compare(11, 0), 0);
@@ -356,7 +356,7 @@ public final class BoundaryTests {
                 becomes(row[0] + " and " + row[1] + ", how " + how, row[2 + how], x -> x.logic(9, 0, 1, how), row[0], row[1]);
             }
         }
-        SignedMill mill = longDivision();
+        Mill mill = longDivision();
         Look.done("both of the greatest and -1", mill.logic(9, 0, 3, 0), mill, 9, GREATEST);
         Look.done("one of the greatest and the least", mill.logic(9, 0, 1, 1), mill, 9, -1);
         Look.done("just one of the greatest and the least", mill.logic(9, 0, 1, 2), mill, 9, -2);
@@ -402,7 +402,7 @@ public final class BoundaryTests {
             becomes("5 by " + n, 0, x -> x.shift(9, 0, n), 5);
             becomes("-5 by " + n, -1, x -> x.shift(9, 0, n), -5);
         }
-        SignedMill mill = longDivision();
+        Mill mill = longDivision();
         Look.done("the greatest by -65535", mill.shift(9, 0, -65535), mill, 9, 1);
         Look.done("the greatest by -65536", mill.shift(9, 0, -65536), mill, 9, 0);
         Look.done("the greatest by the least n", mill.shift(9, 0, MIN), mill, 9, 0);
@@ -428,7 +428,7 @@ public final class BoundaryTests {
                 becomes(a + ", bit " + k + " over", big(a).flipBit(k), x -> x.change(9, 0, k, 2), a);
             }
         }
-        SignedMill mill = longDivision();
+        Mill mill = longDivision();
         Look.done("the greatest's bit 65535 over", mill.change(9, 0, 65535, 2), mill, 9, Due.two(65535).subtract(ONE));
         Look.done("the least's bit 65535 over", mill.change(9, 1, 65535, 2), mill, 9, LEAST.add(Due.two(65535)));
         Look.done("the least's bit 1 to 1", mill.change(9, 1, 1, 1), mill, 9, LEAST.add(big(2)));
@@ -465,7 +465,7 @@ public final class BoundaryTests {
                 Look.refused("-5, bit " + k + " 0", x -> Look.values(x, -5), x -> x.change(9, 0, k, 0));
                 Look.refused("-5, bit " + k + " over", x -> Look.values(x, -5), x -> x.change(9, 0, k, 2));
             }
-            SignedMill mill = longDivision();
+            Mill mill = longDivision();
             Look.done("the least, bit " + k + " alike", mill.change(9, 1, k, k > 65535 ? 1 : 0), mill, 9, LEAST);
             Look.done("the greatest, bit " + k + " alike", mill.change(9, 0, k, k > 65535 ? 0 : 1), mill, 9, GREATEST);
         }
@@ -479,7 +479,7 @@ public final class BoundaryTests {
             becomes(a + " to 2", big(a).pow(2), x -> x.power(9, 0, 2), a);
             becomes(a + " to 3", big(a).pow(3), x -> x.power(9, 0, 3), a);
         }
-        SignedMill mill = longDivision();
+        Mill mill = longDivision();
         Look.done("the greatest to 0", mill.power(9, 0, 0), mill, 9, 1);
         Look.done("the least to 0", mill.power(9, 1, 0), mill, 9, 1);
         Look.done("the least to 1", mill.power(9, 1, 1), mill, 9, LEAST);
@@ -513,7 +513,7 @@ public final class BoundaryTests {
             becomes(row[0] + ", " + row[1], row[2], x -> x.common(9, 0, 1), row[0], row[1]);
         }
         becomes("-2^63 twice", Due.two(63), x -> x.common(9, 0, 0), Long.MIN_VALUE);
-        SignedMill mill = longDivision();
+        Mill mill = longDivision();
         Look.done("the greatest, the least", mill.common(9, 0, 1), mill, 9, GREATEST);
         Look.done("the greatest, 1 less", mill.common(9, 0, 4), mill, 9, 1);
         Look.ones(mill, 6, 32768);
@@ -538,7 +538,7 @@ public final class BoundaryTests {
         for (long[] row : rows) {
             becomes(row[0] + " by " + row[1], row[2], x -> x.inverse(9, 0, 1), row[0], row[1]);
         }
-        SignedMill mill = longDivision();
+        Mill mill = longDivision();
         Look.done("2 by the greatest", mill.inverse(9, 2, 0), mill, 9, Due.two(65535));
         Look.done("-1 by the greatest", mill.inverse(9, 3, 0), mill, 9, GREATEST.subtract(ONE));
         Look.done("1 by the greatest", mill.inverse(9, 5, 0), mill, 9, 1);
@@ -552,7 +552,7 @@ public final class BoundaryTests {
             becomes(a + " by 1", 0, x -> x.inverse(9, 0, 1), a, 1);
         }
         becomes("1 by itself", 0, x -> x.inverse(9, 0, 0), 1);
-        SignedMill mill = longDivision();
+        Mill mill = longDivision();
         Look.done("the least by 1", mill.inverse(9, 1, 5), mill, 9, 0);
     }
 
@@ -610,7 +610,7 @@ public final class BoundaryTests {
                 becomes(a + " to " + e + " by 1", 0, x -> x.modulo(9, 0, 1, 2), a, e, 1);
             }
         }
-        SignedMill mill = longDivision();
+        Mill mill = longDivision();
         Look.done("to the least by 1", mill.modulo(9, 2, 1, 5), mill, 9, 0);
         Look.done("to the greatest by 1", mill.modulo(9, 2, 0, 5), mill, 9, 0);
     }
@@ -636,7 +636,7 @@ public final class BoundaryTests {
         becomes("6 to 1 by 9", 6, x -> x.modulo(9, 0, 1, 2), 6, 1, 9);
     }
 
-    private static Consumer<SignedMill> workOf(int exponentBits, int modulusBits) {
+    private static Consumer<Mill> workOf(int exponentBits, int modulusBits) {
         return x -> {
             Look.same("put", x.put(0, 2), true);
             Look.ones(x, 1, exponentBits);
@@ -646,7 +646,7 @@ public final class BoundaryTests {
 
     /** 2 to a power by 2^n - 1 is a power of 2 again, with a remainder of n. */
     private static void works(int exponentBits, int modulusBits) {
-        SignedMill mill = Look.filled(workOf(exponentBits, modulusBits));
+        Mill mill = Look.filled(workOf(exponentBits, modulusBits));
         int place = Due.two(exponentBits).subtract(ONE).mod(big(modulusBits)).intValue();
         String what = exponentBits + " bits by " + modulusBits;
         Look.done(what, mill.modulo(9, 0, 1, 2), mill, 9, Due.two(place));
@@ -657,7 +657,7 @@ public final class BoundaryTests {
 
     private static void worksNot(int exponentBits, int modulusBits) {
         String what = exponentBits + " bits by " + modulusBits;
-        Consumer<SignedMill> make = workOf(exponentBits, modulusBits);
+        Consumer<Mill> make = workOf(exponentBits, modulusBits);
         Look.refused(what, make, x -> x.modulo(9, 0, 1, 2));
         Look.refused(what + ", below 0", make.andThen(x -> Look.same("negate", x.negate(1, 1), true)), x -> x.modulo(9, 0, 1, 2));
         Look.refused(what + ", of 0", make.andThen(x -> Look.values(x, 0)), x -> x.modulo(9, 0, 1, 2));
@@ -686,14 +686,14 @@ public final class BoundaryTests {
 
     private static void moduloWorkOfSize() {
         Look.sentence("Promise 16: the bits that e without its sign has (those of its size)");
-        Consumer<SignedMill> make = x -> {
+        Consumer<Mill> make = x -> {
             Look.values(x, 2, -0x8000, -0x10000, 0x8000, 0x10000);
             Look.ones(x, 5, 16384);
             Look.shifted(x, 6, 1, 16383);
             Look.shifted(x, 7, 1, 16384);
             Look.same("put", x.put(8, 3), true);
         };
-        SignedMill mill = Look.filled(make);
+        Mill mill = Look.filled(make);
         // 2^15 is 2 * 16384 factors.
         Look.done("-2^15 has 16 bits", mill.modulo(9, 0, 1, 5), mill, 9, 1);
         Look.done("2^15 has 16 bits", mill.modulo(9, 0, 3, 5), mill, 9, 1);
@@ -701,20 +701,20 @@ public final class BoundaryTests {
         Look.refused("-2^16 has 17 bits", make, x -> x.modulo(9, 0, 2, 5));
         Look.refused("2^16 has 17 bits", make, x -> x.modulo(9, 0, 4, 5));
         Look.refused("2^16384 has 16385 bits", make, x -> x.modulo(9, 8, 3, 7));
-        Consumer<SignedMill> two = x -> {
+        Consumer<Mill> two = x -> {
             Look.values(x, 7, -2, -1, 2, 1);
             Look.greatest(x, 5);
         };
         Look.refused("-2 has 2 bits", two, x -> x.modulo(9, 0, 1, 5));
         Look.refused("2 has 2 bits", two, x -> x.modulo(9, 0, 3, 5));
-        SignedMill one = Look.filled(two);
+        Mill one = Look.filled(two);
         Look.done("1 has 1 bit", one.modulo(9, 0, 4, 5), one, 9, 7);
         Look.done("-1 has 1 bit", one.modulo(9, 0, 2, 5), one, 9, big(7).modInverse(GREATEST));
     }
 
     private static void moduloWorkOfZero() {
         Look.sentence("Promise 16: of 0 none");
-        SignedMill mill = Look.filled(x -> {
+        Mill mill = Look.filled(x -> {
             Look.values(x, 7, 0);
             Look.greatest(x, 2);
             Look.least(x, 3);
@@ -726,7 +726,7 @@ public final class BoundaryTests {
 
     private static void compare() {
         Look.sentence("Promise 17: -1, 0 or 1 when a is below, equal to or above b");
-        SignedMill mill = Look.filled(x -> {
+        Mill mill = Look.filled(x -> {
             Look.least(x, 0);
             Look.shifted(x, 1, -1, 65535);
             Look.same("rising", x.put(2, Long.MIN_VALUE) & x.put(3, -0x100000001L) & x.put(4, -0x100000000L) & x.put(5, -2) & x.put(6, -1) & x.put(7, 0), true);
@@ -745,7 +745,7 @@ public final class BoundaryTests {
 
     private static void compareNone() {
         Look.sentence("Promise 17: -2 when one of them is no register.");
-        SignedMill mill = Look.filled();
+        Mill mill = Look.filled();
         for (int none : Look.NONE) {
             Look.same(none + " first", mill.compare(none, 0), -2);
             Look.same(none + " second", mill.compare(15, none), -2);
@@ -755,7 +755,7 @@ public final class BoundaryTests {
 
     private static void sign() {
         Look.sentence("Promise 18: -1, 0 or 1 when r is below, equal to or above 0");
-        SignedMill mill = Look.filled(x -> {
+        Mill mill = Look.filled(x -> {
             Look.values(x, 0, 1, -1, Long.MIN_VALUE, Long.MAX_VALUE, 0, 0);
             Look.greatest(x, 5);
             Look.least(x, 6);
@@ -779,8 +779,8 @@ public final class BoundaryTests {
     }
 
     /** The number v * 2^n in a register, as this reading answers it. */
-    private static SignedMill shifted(long v, int n) {
-        SignedMill mill = new SignedMill();
+    private static Mill shifted(long v, int n) {
+        Mill mill = new Mill();
         Look.shifted(mill, 0, v, n);
         return mill;
     }
@@ -795,7 +795,7 @@ public final class BoundaryTests {
             Look.same("2^" + n, shifted(1, n).length(0), n + 1);
             Look.same("-2^" + n, shifted(-1, n).length(0), n);
         }
-        SignedMill mill = longDivision();
+        Mill mill = longDivision();
         Look.same("the greatest", mill.length(0), 65536);
         Look.same("the least", mill.length(1), 65536);
     }
@@ -817,7 +817,7 @@ public final class BoundaryTests {
             Look.same("2^" + n, shifted(1, n).ones(0), 1);
             Look.same("-2^" + n, shifted(-1, n).ones(0), n);
         }
-        SignedMill mill = longDivision();
+        Mill mill = longDivision();
         Look.same("the greatest", mill.ones(0), 65536);
         Look.same("the least", mill.ones(1), 65535);
     }
@@ -838,7 +838,7 @@ public final class BoundaryTests {
         }
         Look.same("2^65535", shifted(1, 65535).lowest(0), 65535);
         Look.same("-2^65535", shifted(-1, 65535).lowest(0), 65535);
-        SignedMill mill = longDivision();
+        Mill mill = longDivision();
         Look.same("the greatest", mill.lowest(0), 0);
         Look.same("the least", mill.lowest(1), 0);
         Look.same("1 less", mill.lowest(4), 1);
@@ -846,8 +846,8 @@ public final class BoundaryTests {
 
     private static void lowestNone() {
         Look.sentence("Promise 21: -1 when there is none, or r is no register.");
-        Look.same("a new object's", new SignedMill().lowest(0), -1);
-        SignedMill mill = longDivision();
+        Look.same("a new object's", new Mill().lowest(0), -1);
+        Mill mill = longDivision();
         Look.same("the greatest + the least", mill.add(0, 0, 1), true);
         Look.same("there is none", mill.lowest(0), -1);
         for (int none : Look.NONE) {
@@ -857,7 +857,7 @@ public final class BoundaryTests {
 
     private static void word() {
         Look.sentence("Promise 22: WORD k of r, as an int");
-        SignedMill mill = Look.filled(x -> Look.values(x, 0x1FFFFFFFFL, -0x1FFFFFFFFL, -1, 0));
+        Mill mill = Look.filled(x -> Look.values(x, 0x1FFFFFFFFL, -0x1FFFFFFFFL, -1, 0));
         long[][] rows = {{0, 0, -1}, {0, 1, 1}, {0, 2, 0}, {0, MAX, 0}, {1, 0, 1}, {1, 1, -2}, {1, 2, -1}, {1, MAX, -1}, {2, 0, -1}, {2, MAX, -1},
             {3, 0, 0}, {3, MAX, 0}};
         for (long[] row : rows) {
@@ -867,7 +867,7 @@ public final class BoundaryTests {
 
     private static void wordNone() {
         Look.sentence("Promise 22: 0 when r is no register or k is below 0.");
-        SignedMill mill = Look.filled(x -> Look.values(x, -1));
+        Mill mill = Look.filled(x -> Look.values(x, -1));
         for (int none : Look.NONE) {
             Look.same("register " + none, mill.word(none, 0), 0);
             Look.same("register " + none + " far above", mill.word(none, MAX), 0);

@@ -2,9 +2,9 @@ import java.math.BigInteger;
 
 /** What the tests share: it counts the answers that are not as due, and reads and writes registers. */
 final class Due {
+    static final int MOST_BITS = 65536;
     static final BigInteger ONE = BigInteger.ONE;
-    static final BigInteger LIMIT = ONE.shiftLeft(65536);
-    static final BigInteger GREATEST = LIMIT.subtract(ONE);
+    static final BigInteger GREATEST = ONE.shiftLeft(MOST_BITS).subtract(ONE);
 
     private static int right = 0;
     private static int wrong = 0;
@@ -46,11 +46,8 @@ final class Due {
     }
 
     /** The number in r, read by its words up to one that is all sign. */
-    static BigInteger read(SignedMill mill, int r) {
-        return read(mill, r, 2050);
-    }
-
-    static BigInteger read(SignedMill mill, int r, int words) {
+    static BigInteger read(Mill mill, int r) {
+        int words = Math.max(0, Math.min(mill.length(r), MOST_BITS)) / 32 + 2;
         byte[] bytes = new byte[4 * words];
         for (int k = 0; k < words; k++) {
             int word = mill.word(r, k);
@@ -61,12 +58,19 @@ final class Due {
         return new BigInteger(bytes);
     }
 
-    /** Puts a number into r by put, push and, for its sign, negate. */
-    static void write(SignedMill mill, int r, BigInteger value) {
+    /** Puts a number into r, where register 15 is 0 and stays so. Runs of like 64 bits take few calls. */
+    static void write(Mill mill, int r, BigInteger value) {
         BigInteger size = value.abs();
         boolean done = mill.put(r, 0);
-        for (int k = (size.bitLength() + 63) / 64 - 1; k >= 0; k--) {
-            done &= mill.push(r, size.shiftRight(64 * k).longValue());
+        int left = (size.bitLength() + 63) / 64;
+        while (left > 0) {
+            long bits = size.shiftRight(64 * (left - 1)).longValue();
+            int like = 1;
+            while (like < left && size.shiftRight(64 * (left - 1 - like)).longValue() == bits) {
+                like++;
+            }
+            left -= like;
+            done &= like < 5 ? pushAll(mill, r, bits, like) : appendSpread(mill, r, bits, like);
         }
         if (value.signum() < 0) {
             done &= mill.negate(r, r);
@@ -74,17 +78,29 @@ final class Due {
         same("writing a number", done, true);
     }
 
+    private static boolean pushAll(Mill mill, int r, long bits, int n) {
+        boolean done = true;
+        for (int i = 0; i < n; i++) {
+            done &= mill.push(r, bits);
+        }
+        return done;
+    }
+
+    private static boolean appendSpread(Mill mill, int r, long bits, int n) {
+        return mill.shift(r, r, 64 * n) && mill.spread(15, bits, n) && mill.add(r, r, 15) && mill.put(15, 0);
+    }
+
     /** A new object with these numbers in its first registers. */
-    static SignedMill with(BigInteger... values) {
-        SignedMill mill = new SignedMill();
+    static Mill with(BigInteger... values) {
+        Mill mill = new Mill();
         for (int r = 0; r < values.length; r++) {
             write(mill, r, values[r]);
         }
         return mill;
     }
 
-    static SignedMill with(long... values) {
-        SignedMill mill = new SignedMill();
+    static Mill with(long... values) {
+        Mill mill = new Mill();
         for (int r = 0; r < values.length; r++) {
             same("put", mill.put(r, values[r]), true);
         }

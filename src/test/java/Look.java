@@ -31,7 +31,7 @@ final class Look {
     }
 
     /** Nine marks of a number: its sign, its bits' count, how many are unlike the sign, the lowest 1, and some words. */
-    static String of(SignedMill mill, int r) {
+    static String of(Mill mill, int r) {
         int length = mill.length(r);
         int top = length / 32;
         return mill.sign(r) + " " + length + " " + mill.ones(r) + " " + mill.lowest(r) + " " + mill.word(r, 0) + " " + mill.word(r, 1) + " "
@@ -49,7 +49,7 @@ final class Look {
         return value.shiftRight(32 * k).intValue();
     }
 
-    static String ofAll(SignedMill mill) {
+    static String ofAll(Mill mill) {
         StringBuilder all = new StringBuilder();
         for (int r = 0; r < 16; r++) {
             all.append(of(mill, r)).append('\n');
@@ -57,26 +57,26 @@ final class Look {
         return all.toString();
     }
 
-    static void holds(String what, SignedMill mill, int r, BigInteger want) {
+    static void holds(String what, Mill mill, int r, BigInteger want) {
         same(what, of(mill, r), of(want));
     }
 
-    static void holds(String what, SignedMill mill, int r, long want) {
+    static void holds(String what, Mill mill, int r, long want) {
         holds(what, mill, r, BigInteger.valueOf(want));
     }
 
-    static void done(String what, boolean answer, SignedMill mill, int r, BigInteger want) {
+    static void done(String what, boolean answer, Mill mill, int r, BigInteger want) {
         same(what, answer, true);
         holds(what, mill, r, want);
     }
 
-    static void done(String what, boolean answer, SignedMill mill, int r, long want) {
+    static void done(String what, boolean answer, Mill mill, int r, long want) {
         done(what, answer, mill, r, BigInteger.valueOf(want));
     }
 
     /** A new object with another prime in each register, then with what is made in it. */
-    static SignedMill filled(Consumer<SignedMill> make) {
-        SignedMill mill = new SignedMill();
+    static Mill filled(Consumer<Mill> make) {
+        Mill mill = new Mill();
         boolean done = true;
         for (int r = 0; r < 16; r++) {
             done &= mill.put(r, PRIMES[r]);
@@ -86,41 +86,41 @@ final class Look {
         return mill;
     }
 
-    static SignedMill filled() {
+    static Mill filled() {
         return filled(x -> { });
     }
 
     /** The call answers false on such an object, and all sixteen registers stay. */
-    static void refused(String what, Consumer<SignedMill> make, Predicate<SignedMill> call) {
-        SignedMill mill = filled(make);
+    static void refused(String what, Consumer<Mill> make, Predicate<Mill> call) {
+        Mill mill = filled(make);
         String before = ofAll(mill);
         same(what, call.test(mill), false);
         same(what + " changes nothing", ofAll(mill), before);
     }
 
     /** r becomes 2^65536 - 1. */
-    static void greatest(SignedMill mill, int r) {
+    static void greatest(Mill mill, int r) {
         same("greatest", mill.spread(r, -1, 1024), true);
     }
 
     /** r becomes -(2^65536 - 1). */
-    static void least(SignedMill mill, int r) {
+    static void least(Mill mill, int r) {
         greatest(mill, r);
         same("least", mill.negate(r, r), true);
     }
 
     /** r becomes v * 2^n. */
-    static void shifted(SignedMill mill, int r, long v, int n) {
+    static void shifted(Mill mill, int r, long v, int n) {
         same("shifted", mill.put(r, v) && mill.shift(r, r, n), true);
     }
 
     /** r becomes 2^n - 1. */
-    static void ones(SignedMill mill, int r, int n) {
+    static void ones(Mill mill, int r, int n) {
         greatest(mill, r);
         same("ones", mill.shift(r, r, n - 65536), true);
     }
 
-    static void values(SignedMill mill, long... values) {
+    static void values(Mill mill, long... values) {
         for (int r = 0; r < values.length; r++) {
             same("put", mill.put(r, values[r]), true);
         }

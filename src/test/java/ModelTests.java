@@ -2,51 +2,65 @@ import java.math.BigInteger;
 
 /** Long runs of calls on SignedMill and on the model, whose answers and registers must stay alike. */
 public final class ModelTests {
-    private static final int CALLS = 512;
+    // Of longer numbers only some are read wholly: that takes more calls than one object has.
+    private static final int WHOLLY_READ = 4000;
+    private static final int MOST_PUSHED = 400;
 
+    private String name;
     private long seed;
     private int mostBits;
-    private SignedMill mill;
+    private Mill mill;
     private Model model;
-    private String call;
+    // The register that the run's last call put a number into, if it did.
+    private int written;
 
     public static void main(String[] args) {
         ModelTests tests = new ModelTests();
-        for (int run = 0; run < 100; run++) {
-            tests.run(run, 70);
-            tests.run(run + 1000, 400);
-            tests.run(run + 2000, 4000);
+        for (int run = 0; run < 150; run++) {
+            tests.run(run, 70, 400);
+            tests.run(run + 1000, 400, 400);
+            tests.run(run + 2000, 4000, 200);
         }
-        for (int run = 0; run < 12; run++) {
-            tests.run(run + 3000, 65536);
+        for (int run = 0; run < 16; run++) {
+            tests.run(run + 3000, 65536, 100);
         }
         Due.end("ModelTests");
     }
 
-    private void run(int number, int bits) {
+    private void run(int number, int bits, int puts) {
         seed = number * 0x9E3779B97F4A7C15L + 1;
+        name = "run " + number;
         mostBits = bits;
-        mill = new SignedMill();
+        mill = new Mill();
         model = new Model();
-        for (int i = 0; i < CALLS && Due.wrongs() == 0; i++) {
+        while (mill.putsMade() < puts && Due.wrongs() == 0) {
+            written = below(16);
             call();
-            for (int r = 0; r < 16; r++) {
-                Due.same(call + " then sign", mill.sign(r), model.sign(r));
-                Due.same(call + " then length", mill.length(r), model.length(r));
+            look(written);
+            look(below(16));
+            if (below(8) == 0) {
+                readWholly(written);
             }
-            compareRegister(below(16));
-            call = "run " + number + " call " + i + ": " + call;
         }
         for (int r = 0; r < 16; r++) {
-            compareRegister(r);
+            look(r);
+            readWholly(r);
         }
     }
 
-    private void compareRegister(int r) {
-        int words = model.registers[r].bitLength() / 32 + 2;
-        Due.same(call + " then register " + r, Due.read(mill, r, words), model.registers[r]);
-        Due.same(call + " then ones " + r, mill.ones(r), model.ones(r));
-        Due.same(call + " then lowest " + r, mill.lowest(r), model.lowest(r));
+    private void look(int r) {
+        int k = below(model.length(r) / 32 + 2);
+        same("sign of " + r, mill.sign(r), model.sign(r));
+        same("length of " + r, mill.length(r), model.length(r));
+        same("ones of " + r, mill.ones(r), model.ones(r));
+        same("lowest of " + r, mill.lowest(r), model.lowest(r));
+        same("word " + k + " of " + r, mill.word(r, k), model.word(r, k));
+    }
+
+    private void readWholly(int r) {
+        if (model.length(r) <= WHOLLY_READ || below(20) == 0) {
+            same("register " + r, Due.read(mill, r), model.registers[r]);
+        }
     }
 
     private long next() {
@@ -69,25 +83,11 @@ public final class ModelTests {
         return others[below(others.length)];
     }
 
-    /** Numbers with long runs of like bits reach the rare branches of a division. */
-    private BigInteger number() {
-        int bits = below(4) == 0 ? mostBits - below(Math.min(3, mostBits)) : below(mostBits + 1);
-        BigInteger size = BigInteger.ZERO;
-        int kind = below(4);
-        if (kind == 0) {
-            size = Due.two(bits).subtract(BigInteger.ONE);
-        } else if (kind == 1) {
-            size = Due.two(Math.min(bits, 65535)).add(BigInteger.valueOf(below(3) - 1));
-        } else {
-            for (int left = bits; left > 0;) {
-                int n = Math.min(left, kind == 2 ? 64 : 1 + below(100));
-                long random = next();
-                BigInteger part = BigInteger.valueOf(kind == 2 ? random : random % 2).and(Due.two(n).subtract(BigInteger.ONE));
-                size = size.shiftLeft(n).add(part);
-                left -= n;
-            }
-        }
-        return below(2) == 0 ? size : size.negate();
+    /** A register to put a number into, which is looked at after the call. */
+    private int target() {
+        int d = register();
+        written = d >= 0 && d < 16 ? d : written;
+        return d;
     }
 
     private long bits64() {
@@ -101,16 +101,55 @@ public final class ModelTests {
     }
 
     private void same(String what, Object got, Object want) {
-        call = what;
-        Due.same(what, got, want);
+        Due.same(name + ", call " + mill.putsMade() + ": " + what, got, want);
     }
 
     private void fill() {
-        int r = below(16);
-        BigInteger value = number();
-        Due.write(mill, r, value);
-        model.registers[r] = value;
-        call = "fill " + r;
+        int bits = below(4) == 0 ? mostBits - below(3) : 1 + below(mostBits);
+        switch (below(4)) {
+            case 0 -> fillByPushes(written, Math.min(bits, MOST_PUSHED));
+            case 1 -> fillByPower(written, bits);
+            case 2 -> fillWithOnes(written, bits);
+            default -> fillNearPower(written, Math.min(bits, 65535));
+        }
+        if (below(2) == 0) {
+            same("negate " + written, mill.negate(written, written), model.negate(written, written));
+        }
+    }
+
+    /** Pushed bits have long runs of like ones, which reach the rare branches of a division. */
+    private void fillByPushes(int r, int bits) {
+        same("put " + r, mill.put(r, 0), model.put(r, 0));
+        for (int left = bits; left > 0; left -= 64) {
+            long v = bits64();
+            same("push " + r + " " + v, mill.push(r, v), model.push(r, v));
+        }
+    }
+
+    /** A long number that looks random, in two calls. */
+    private void fillByPower(int r, int bits) {
+        long v = next() >>> 1 + below(40) | 1;
+        int n = Math.max(1, bits / (64 - Long.numberOfLeadingZeros(v)));
+        same("put " + r + " " + v, mill.put(r, v), model.put(r, v));
+        same("power " + r + " " + n, mill.power(r, r, n), model.power(r, r, n));
+    }
+
+    /** 2^bits - 1. */
+    private void fillWithOnes(int r, int bits) {
+        same("spread " + r, mill.spread(r, -1, 1024), model.spread(r, -1, 1024));
+        same("shift " + r + " " + (bits - 65536), mill.shift(r, r, bits - 65536), model.shift(r, r, bits - 65536));
+    }
+
+    /** -2^n or one of its neighbours. */
+    private void fillNearPower(int r, int n) {
+        int other = (r + 1) % 16;
+        int near = below(3) - 1;
+        same("put " + r, mill.put(r, -1), model.put(r, -1));
+        same("shift " + r + " " + n, mill.shift(r, r, n), model.shift(r, r, n));
+        if (near != 0) {
+            same("put " + other, mill.put(other, near), model.put(other, near));
+            same("add " + r + " " + other, mill.add(r, r, other), model.add(r, r, other));
+        }
     }
 
     private void call() {
@@ -125,7 +164,7 @@ public final class ModelTests {
     }
 
     private void callPlain(int kind) {
-        int d = register();
+        int d = target();
         int a = register();
         int b = register();
         long v = bits64();
@@ -153,7 +192,7 @@ public final class ModelTests {
     }
 
     private void callHard(int kind) {
-        int d = register();
+        int d = target();
         int e = register();
         int a = register();
         int b = register();

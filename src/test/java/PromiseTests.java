@@ -10,7 +10,7 @@ public final class PromiseTests {
 
     /** A call with one register named; the others that it needs are 0, 1, .. */
     private interface Named {
-        boolean call(SignedMill mill, int r);
+        boolean call(Mill mill, int r);
     }
 
     public static void main(String[] args) {
@@ -40,6 +40,7 @@ public final class PromiseTests {
         ones();
         lowest();
         word();
+        readme();
         Due.end("PromiseTests");
     }
 
@@ -47,21 +48,21 @@ public final class PromiseTests {
         return BigInteger.valueOf(v);
     }
 
-    private static void holds(String what, SignedMill mill, int r, BigInteger want) {
+    private static void holds(String what, Mill mill, int r, BigInteger want) {
         Due.same(what, Due.read(mill, r), want);
         Due.same(what + ", sign", mill.sign(r), want.signum());
     }
 
-    private static void done(String what, boolean answer, SignedMill mill, int r, BigInteger want) {
+    private static void done(String what, boolean answer, Mill mill, int r, BigInteger want) {
         Due.same(what, answer, true);
         holds(what, mill, r, want);
     }
 
-    private static void done(String what, boolean answer, SignedMill mill, int r, long want) {
+    private static void done(String what, boolean answer, Mill mill, int r, long want) {
         done(what, answer, mill, r, big(want));
     }
 
-    private static BigInteger[] readAll(SignedMill mill) {
+    private static BigInteger[] readAll(Mill mill) {
         BigInteger[] all = new BigInteger[16];
         for (int r = 0; r < 16; r++) {
             all[r] = Due.read(mill, r);
@@ -69,7 +70,7 @@ public final class PromiseTests {
         return all;
     }
 
-    private static void refused(String what, SignedMill mill, Predicate<SignedMill> call) {
+    private static void refused(String what, Mill mill, Predicate<Mill> call) {
         BigInteger[] before = readAll(mill);
         Due.same(what, call.test(mill), false);
         BigInteger[] after = readAll(mill);
@@ -79,7 +80,7 @@ public final class PromiseTests {
     }
 
     private static void refusedWithoutRegister(String what, Named call) {
-        SignedMill mill = Due.with(5, 3, 7, 9, 11);
+        Mill mill = Due.with(5, 3, 7, 9, 11);
         for (int r : NO_REGISTERS) {
             refused(what + " with register " + r, mill, x -> call.call(x, r));
         }
@@ -87,18 +88,18 @@ public final class PromiseTests {
     }
 
     private static void newObject() {
-        SignedMill mill = new SignedMill();
+        Mill mill = new Mill();
         for (int r = 0; r < 16; r++) {
             holds("a new object's register " + r, mill, r, ZERO);
             Due.same("length of a new register", mill.length(r), 0);
         }
         Due.same("put into one object", mill.put(3, 5), true);
-        holds("another new object", new SignedMill(), 3, ZERO);
+        holds("another new object", new Mill(), 3, ZERO);
     }
 
     private static void put() {
         long[] values = {0, 1, -1, 5, -5, 0xFFFFFFFFL, -0xFFFFFFFFL, 0x100000000L, -0x100000000L, Long.MAX_VALUE, Long.MIN_VALUE, Long.MIN_VALUE + 1};
-        SignedMill mill = new SignedMill();
+        Mill mill = new Mill();
         for (long v : values) {
             for (int r = 0; r < 16; r += 5) {
                 done("put " + v, mill.put(r, v), mill, r, v);
@@ -112,7 +113,7 @@ public final class PromiseTests {
 
     private static void push() {
         BigInteger two64 = Due.two(64);
-        SignedMill mill = Due.with(0, 3, -3);
+        Mill mill = Due.with(0, 3, -3);
         done("push on 0", mill.push(0, -1), mill, 0, two64.subtract(ONE));
         done("push 0 on 0", mill.push(3, 0), mill, 3, 0);
         done("push on 3", mill.push(1, Long.MIN_VALUE), mill, 1, two64.multiply(big(3)).add(Due.two(63)));
@@ -128,7 +129,7 @@ public final class PromiseTests {
     }
 
     private static void spread() {
-        SignedMill mill = Due.with(-9, -9, -9, -9);
+        Mill mill = Due.with(-9, -9, -9, -9);
         done("spread once", mill.spread(0, Long.MIN_VALUE, 1), mill, 0, Due.two(63));
         done("spread not at all", mill.spread(1, 77, 0), mill, 1, 0);
         done("spread thrice", mill.spread(2, 5, 3), mill, 2, Due.two(128).add(Due.two(64)).add(ONE).multiply(big(5)));
@@ -141,7 +142,7 @@ public final class PromiseTests {
     }
 
     private static void negate() {
-        SignedMill mill = Due.with(big(5), big(-6), ZERO, GREATEST);
+        Mill mill = Due.with(big(5), big(-6), ZERO, GREATEST);
         done("negate 5", mill.negate(4, 0), mill, 4, -5);
         done("negate -6", mill.negate(4, 1), mill, 4, 6);
         done("negate 0", mill.negate(4, 2), mill, 4, 0);
@@ -156,13 +157,13 @@ public final class PromiseTests {
         long[] values = {0, 1, -1, 7, -7, 0xFFFFFFFFL, -0xFFFFFFFFL, 0x100000000L, Long.MAX_VALUE, Long.MIN_VALUE};
         for (long a : values) {
             for (long b : values) {
-                SignedMill mill = Due.with(a, b);
+                Mill mill = Due.with(a, b);
                 done(a + " + " + b, mill.add(2, 0, 1), mill, 2, big(a).add(big(b)));
                 done(a + " + " + b + " into the first", mill.add(0, 0, 1), mill, 0, big(a).add(big(b)));
                 holds("add leaves the second", mill, 1, big(b));
             }
         }
-        SignedMill mill = Due.with(GREATEST, ONE, GREATEST.subtract(ONE), GREATEST.negate(), big(-1));
+        Mill mill = Due.with(GREATEST, ONE, GREATEST.subtract(ONE), GREATEST.negate(), big(-1));
         refused("add past the limit", mill, x -> x.add(5, 0, 1));
         refused("add past the limit below 0", mill, x -> x.add(3, 3, 4));
         refused("add the greatest to itself", mill, x -> x.add(0, 0, 0));
@@ -178,13 +179,13 @@ public final class PromiseTests {
         long[] values = {0, 1, -1, 7, -7, 0xFFFFFFFFL, -0x100000000L, 0x100000000L, Long.MAX_VALUE, Long.MIN_VALUE};
         for (long a : values) {
             for (long b : values) {
-                SignedMill mill = Due.with(a, b);
+                Mill mill = Due.with(a, b);
                 done(a + " - " + b, mill.take(2, 0, 1), mill, 2, big(a).subtract(big(b)));
                 done(a + " - " + b + " into the second", mill.take(1, 0, 1), mill, 1, big(a).subtract(big(b)));
                 holds("take leaves the first", mill, 0, big(a));
             }
         }
-        SignedMill mill = Due.with(GREATEST, ONE, GREATEST.negate(), big(-1), Due.two(65500));
+        Mill mill = Due.with(GREATEST, ONE, GREATEST.negate(), big(-1), Due.two(65500));
         refused("take past the limit", mill, x -> x.take(5, 0, 3));
         refused("take past the limit below 0", mill, x -> x.take(5, 2, 1));
         done("take a borrow far down", mill.take(5, 4, 1), mill, 5, Due.two(65500).subtract(ONE));
@@ -198,13 +199,13 @@ public final class PromiseTests {
         long[] values = {0, 1, -1, 7, -7, 0xFFFFFFFFL, -0xFFFFFFFFL, 0x100000000L, Long.MAX_VALUE, Long.MIN_VALUE};
         for (long a : values) {
             for (long b : values) {
-                SignedMill mill = Due.with(a, b);
+                Mill mill = Due.with(a, b);
                 done(a + " * " + b, mill.times(2, 0, 1), mill, 2, big(a).multiply(big(b)));
                 done(a + " * " + b + " into the first", mill.times(0, 0, 1), mill, 0, big(a).multiply(big(b)));
             }
         }
         BigInteger half = Due.two(32768).subtract(ONE);
-        SignedMill mill = Due.with(half, half.add(big(2)), Due.two(32768), GREATEST, big(-1), Due.two(32767), ZERO);
+        Mill mill = Due.with(half, half.add(big(2)), Due.two(32768), GREATEST, big(-1), Due.two(32767), ZERO);
         done("a product just at the limit", mill.times(7, 0, 1), mill, 7, GREATEST);
         refused("a product of 2^65536", mill, x -> x.times(7, 2, 2));
         refused("a product of 65537 bits", mill, x -> x.times(7, 1, 2));
@@ -219,7 +220,7 @@ public final class PromiseTests {
     }
 
     private static void dividesTo(long a, long b, boolean down, long q, long r) {
-        SignedMill mill = Due.with(a, b);
+        Mill mill = Due.with(a, b);
         String what = a + " / " + b + (down ? " down" : " cut");
         done(what, mill.divide(2, 3, 0, 1, down), mill, 2, q);
         holds(what + ", rest", mill, 3, big(r));
@@ -250,7 +251,7 @@ public final class PromiseTests {
             Due.two(32768).subtract(ONE), Due.two(30000).add(ONE), big(-3), new BigInteger("80000000ffff", 16), GREATEST, ONE};
         for (BigInteger a : dividends) {
             for (BigInteger b : divisors) {
-                SignedMill mill = Due.with(a, b);
+                Mill mill = Due.with(a, b);
                 BigInteger[] cut = a.divideAndRemainder(b);
                 done("a long quotient", mill.divide(2, 3, 0, 1, false), mill, 2, cut[0]);
                 holds("a long quotient's rest", mill, 3, cut[1]);
@@ -262,7 +263,7 @@ public final class PromiseTests {
     }
 
     private static void divideRefused() {
-        SignedMill mill = Due.with(7, 0, 2);
+        Mill mill = Due.with(7, 0, 2);
         refused("divide by 0", mill, x -> x.divide(3, 4, 0, 1, false));
         refused("divide 0 by 0", mill, x -> x.divide(3, 4, 1, 1, true));
         refused("divide into one register", mill, x -> x.divide(3, 3, 0, 2, false));
@@ -278,7 +279,7 @@ public final class PromiseTests {
     }
 
     private static void logic() {
-        SignedMill mill = Due.with(12, 10, -6, 0);
+        Mill mill = Due.with(12, 10, -6, 0);
         done("12 and 10", mill.logic(4, 0, 1, 0), mill, 4, 8);
         done("12 or 10", mill.logic(4, 0, 1, 1), mill, 4, 14);
         done("just one of 12 and 10", mill.logic(4, 0, 1, 2), mill, 4, 6);
@@ -306,7 +307,7 @@ public final class PromiseTests {
 
     private static void logicAtTheLimit() {
         BigInteger least = GREATEST.negate();
-        SignedMill mill = Due.with(least, least.add(ONE), ONE, GREATEST);
+        Mill mill = Due.with(least, least.add(ONE), ONE, GREATEST);
         refused("-2^65536 by and", mill, x -> x.logic(4, 0, 1, 0));
         refused("-2^65536 by just one", mill, x -> x.logic(4, 0, 2, 2));
         refused("-2^65536 by has not", mill, x -> x.logic(0, 0, 2, 3));
@@ -318,7 +319,7 @@ public final class PromiseTests {
     }
 
     private static void shift() {
-        SignedMill mill = Due.with(big(5), big(-5), ZERO, Due.two(65535), GREATEST.negate(), big(-8));
+        Mill mill = Due.with(big(5), big(-5), ZERO, Due.two(65535), GREATEST.negate(), big(-8));
         done("shift by 0", mill.shift(6, 1, 0), mill, 6, -5);
         done("shift up", mill.shift(6, 0, 100), mill, 6, Due.two(100).multiply(big(5)));
         done("shift up by a whole word", mill.shift(6, 1, 64), mill, 6, Due.two(64).multiply(big(-5)));
@@ -348,14 +349,14 @@ public final class PromiseTests {
         BigInteger[] values = {ZERO, ONE, big(-1), big(6), big(-6), Due.two(64), Due.two(64).negate(), Due.two(40).subtract(ONE), Due.two(96).negate().add(ONE)};
         for (BigInteger a : values) {
             for (int k : new int[] {0, 1, 2, 31, 32, 33, 63, 64, 95, 96, 200, 65535}) {
-                SignedMill mill = Due.with(a);
+                Mill mill = Due.with(a);
                 done("bit " + k + " to 0", mill.change(1, 0, k, 0), mill, 1, a.clearBit(k));
                 done("bit " + k + " to 1", mill.change(1, 0, k, 1), mill, 1, a.setBit(k));
                 done("bit " + k + " over", mill.change(1, 0, k, 2), mill, 1, a.flipBit(k));
                 done("bit " + k + " over in place", mill.change(0, 0, k, 2), mill, 0, a.flipBit(k));
             }
         }
-        SignedMill mill = Due.with(5);
+        Mill mill = Due.with(5);
         for (int how : new int[] {-1, 3, 4, Integer.MIN_VALUE, Integer.MAX_VALUE}) {
             refused("change how " + how, mill, x -> x.change(1, 0, 1, how));
         }
@@ -368,7 +369,7 @@ public final class PromiseTests {
 
     private static void changeFarAbove() {
         BigInteger least = GREATEST.negate();
-        SignedMill mill = Due.with(big(5), big(-5), least, GREATEST);
+        Mill mill = Due.with(big(5), big(-5), least, GREATEST);
         for (int k : new int[] {65536, 65537, 70000, Integer.MAX_VALUE}) {
             done("a far 0 to 0", mill.change(4, 0, k, 0), mill, 4, 5);
             done("a far 1 to 1", mill.change(4, 1, k, 1), mill, 4, -5);
@@ -385,7 +386,7 @@ public final class PromiseTests {
     }
 
     private static void power() {
-        SignedMill mill = Due.with(0, 1, -1, 2, -2, 3, -5);
+        Mill mill = Due.with(0, 1, -1, 2, -2, 3, -5);
         done("0 to 0", mill.power(7, 0, 0), mill, 7, 1);
         done("0 to 9", mill.power(7, 0, 9), mill, 7, 0);
         done("0 to the most", mill.power(7, 0, Integer.MAX_VALUE), mill, 7, 0);
@@ -418,10 +419,25 @@ public final class PromiseTests {
     }
 
     private static void dividesBoth(BigInteger a, BigInteger b, BigInteger want) {
-        SignedMill mill = Due.with(a, b);
+        Mill mill = Due.with(a, b);
         done("common", mill.common(2, 0, 1), mill, 2, want);
         done("common the other way", mill.common(2, 1, 0), mill, 2, want);
         done("common in place", mill.common(1, 0, 1), mill, 1, want);
+    }
+
+    /** Fibonacci's numbers n and n + 1 in registers 0 and 1: so long ones in so few calls are found by doubling n. */
+    private static Mill fibonacci(int n) {
+        Mill mill = Due.with(0, 1);
+        boolean done = true;
+        for (int i = 31 - Integer.numberOfLeadingZeros(n); i >= 0; i--) {
+            done &= mill.add(2, 1, 1) & mill.take(2, 2, 0) & mill.times(2, 2, 0);
+            done &= mill.times(0, 0, 0) & mill.times(1, 1, 1) & mill.add(1, 0, 1) & mill.shift(0, 2, 0);
+            if ((n >> i & 1) != 0) {
+                done &= mill.add(2, 0, 1) & mill.shift(0, 1, 0) & mill.shift(1, 2, 0);
+            }
+        }
+        Due.same("Fibonacci's numbers", done, true);
+        return mill;
     }
 
     private static void common() {
@@ -436,23 +452,18 @@ public final class PromiseTests {
         dividesBoth(GREATEST, Due.two(65535), ONE);
         dividesBoth(GREATEST, Due.two(4096).subtract(ONE), Due.two(4096).subtract(ONE));
         dividesBoth(Due.two(65535), Due.two(40000).multiply(big(3)), Due.two(40000));
-        BigInteger f = ONE;
-        BigInteger g = ONE;
         // Fibonacci's neighbours take the most steps of all.
-        for (int i = 0; g.bitLength() < 60000; i++) {
-            BigInteger next = f.add(g);
-            f = g;
-            g = next;
-        }
-        dividesBoth(f, g, ONE);
-        dividesBoth(f.multiply(big(1000003)).negate(), g.multiply(big(1000003)), big(1000003));
+        Mill mill = fibonacci(86400);
+        done("common of neighbours", mill.common(3, 0, 1), mill, 3, 1);
+        Due.same("their multiples", mill.put(4, -1000003) & mill.times(0, 0, 4) & mill.times(1, 1, 4), true);
+        done("common of their multiples", mill.common(3, 1, 0), mill, 3, 1000003);
         refusedWithoutRegister("common into", (x, r) -> x.common(r, 0, 1));
         refusedWithoutRegister("common first", (x, r) -> x.common(0, r, 1));
         refusedWithoutRegister("common second", (x, r) -> x.common(0, 1, r));
     }
 
     private static void inverse() {
-        SignedMill mill = Due.with(3, 7, -3, 1, 0, 6, 9, -7, 10);
+        Mill mill = Due.with(3, 7, -3, 1, 0, 6, 9, -7, 10);
         done("3 by 7", mill.inverse(9, 0, 1), mill, 9, 5);
         done("-3 by 7", mill.inverse(9, 2, 1), mill, 9, 2);
         done("10 by 7", mill.inverse(9, 8, 1), mill, 9, 5);
@@ -482,7 +493,7 @@ public final class PromiseTests {
     }
 
     private static void modulo() {
-        SignedMill mill = Due.with(3, 5, 7, -3, -5, 1, 0, 6, -7, 9);
+        Mill mill = Due.with(3, 5, 7, -3, -5, 1, 0, 6, -7, 9);
         done("3 to 5 by 7", mill.modulo(10, 0, 1, 2), mill, 10, 5);
         done("-3 to 5 by 7", mill.modulo(10, 3, 1, 2), mill, 10, 2);
         done("3 to -5 by 7", mill.modulo(10, 0, 4, 2), mill, 10, 3);
@@ -503,7 +514,7 @@ public final class PromiseTests {
         done("into the modulus", mill.modulo(2, 0, 1, 2), mill, 2, 5);
         BigInteger prime = Due.two(521).subtract(ONE);
         BigInteger even = Due.two(600).subtract(Due.two(40));
-        BigInteger a = GREATEST.divide(big(1234577)).negate();
+        BigInteger a = GREATEST.divide(big(1234577)).shiftRight(50000).negate();
         BigInteger e = Due.two(3000).subtract(Due.two(1500)).add(big(12345));
         mill = Due.with(a, e, e.negate(), prime, even);
         done("a long power", mill.modulo(5, 0, 1, 3), mill, 5, a.modPow(e, prime));
@@ -517,27 +528,28 @@ public final class PromiseTests {
 
     private static void moduloWork() {
         BigInteger of256 = Due.two(256).subtract(big(189));
-        SignedMill mill = Due.with(GREATEST, of256, Due.two(256), ONE, big(-1), ZERO, big(2), big(3), Due.two(46340).subtract(ONE), Due.two(46340),
+        Mill mill = Due.with(GREATEST, of256, Due.two(256), ONE, big(-1), ZERO, big(2), big(3), Due.two(46340).subtract(ONE), Due.two(46340),
             GREATEST.negate());
         // 7 divides no 2^(2^n) - 1, so this has an inverse by the greatest.
         BigInteger a = big(7).pow(40);
         Due.write(mill, 11, a);
-        done("65536 bits by 256", mill.modulo(12, 11, 0, 1), mill, 12, a.modPow(GREATEST, of256));
-        done("65536 bits below 0 by 256", mill.modulo(12, 11, 10, 1), mill, 12, a.modPow(GREATEST.negate(), of256));
+        // The refused ones first: to read all registers takes new objects, on which what was done is done again.
         refused("65536 bits by 257", mill, x -> x.modulo(12, 11, 0, 2));
         refused("65536 bits below 0 by 257", mill, x -> x.modulo(12, 11, 10, 2));
+        refused("2 bits by 65536", mill, x -> x.modulo(12, 11, 6, 0));
+        refused("3 has 2 bits", mill, x -> x.modulo(12, 11, 7, 0));
+        refused("2 bits by 46341", mill, x -> x.modulo(12, 0, 7, 9));
+        done("65536 bits by 256", mill.modulo(12, 11, 0, 1), mill, 12, a.modPow(GREATEST, of256));
+        done("65536 bits below 0 by 256", mill.modulo(12, 11, 10, 1), mill, 12, a.modPow(GREATEST.negate(), of256));
         done("1 bit by 65536", mill.modulo(12, 11, 3, 0), mill, 12, a);
         done("1 bit below 0 by 65536", mill.modulo(12, 11, 4, 0), mill, 12, a.modInverse(GREATEST));
         done("0 bits by 65536", mill.modulo(12, 11, 5, 0), mill, 12, 1);
-        refused("2 bits by 65536", mill, x -> x.modulo(12, 11, 6, 0));
-        refused("3 has 2 bits", mill, x -> x.modulo(12, 11, 7, 0));
         done("2 bits by 46340", mill.modulo(12, 0, 7, 8), mill, 12, GREATEST.modPow(big(3), Due.two(46340).subtract(ONE)));
-        refused("2 bits by 46341", mill, x -> x.modulo(12, 0, 7, 9));
     }
 
     private static void compare() {
         BigInteger[] rising = {GREATEST.negate(), Due.two(64).negate(), big(-5), big(-4), ZERO, big(3), big(0x100000003L), big(0x300000001L), Due.two(64), GREATEST};
-        SignedMill mill = Due.with(rising);
+        Mill mill = Due.with(rising);
         for (int a = 0; a < rising.length; a++) {
             for (int b = 0; b < rising.length; b++) {
                 Due.same("compare " + a + " " + b, mill.compare(a, b), Integer.compare(a, b));
@@ -550,7 +562,7 @@ public final class PromiseTests {
     }
 
     private static void sign() {
-        SignedMill mill = Due.with(GREATEST, GREATEST.negate(), ZERO, ONE, big(-1));
+        Mill mill = Due.with(GREATEST, GREATEST.negate(), ZERO, ONE, big(-1));
         int[] wants = {1, -1, 0, 1, -1};
         for (int r = 0; r < wants.length; r++) {
             Due.same("sign " + r, mill.sign(r), wants[r]);
@@ -568,7 +580,7 @@ public final class PromiseTests {
         BigInteger[] values = {ZERO, big(-1), ONE, big(-2), big(2), big(-3), Due.two(32), Due.two(32).negate(), Due.two(32).negate().subtract(ONE),
             GREATEST, GREATEST.negate(), Due.two(65535), Due.two(65535).negate()};
         int[] wants = {0, 0, 1, 1, 2, 2, 33, 32, 33, 65536, 65536, 65536, 65535};
-        SignedMill mill = Due.with(values);
+        Mill mill = Due.with(values);
         for (int r = 0; r < wants.length; r++) {
             Due.same("length " + r, mill.length(r), wants[r]);
         }
@@ -580,7 +592,7 @@ public final class PromiseTests {
     private static void ones() {
         BigInteger[] values = {ZERO, big(-1), ONE, big(-2), big(7), big(-8), big(-7), Due.two(64).negate(), GREATEST, GREATEST.negate(), Due.two(65535).negate()};
         int[] wants = {0, 0, 1, 1, 3, 3, 2, 64, 65536, 65535, 65535};
-        SignedMill mill = Due.with(values);
+        Mill mill = Due.with(values);
         for (int r = 0; r < wants.length; r++) {
             Due.same("ones " + r, mill.ones(r), wants[r]);
         }
@@ -592,7 +604,7 @@ public final class PromiseTests {
     private static void lowest() {
         BigInteger[] values = {ZERO, big(-1), ONE, big(-2), big(12), big(-12), Due.two(64), Due.two(64).negate(), GREATEST, Due.two(65535), Due.two(65535).negate()};
         int[] wants = {-1, 0, 0, 1, 2, 2, 64, 64, 0, 65535, 65535};
-        SignedMill mill = Due.with(values);
+        Mill mill = Due.with(values);
         for (int r = 0; r < wants.length; r++) {
             Due.same("lowest " + r, mill.lowest(r), wants[r]);
         }
@@ -602,7 +614,7 @@ public final class PromiseTests {
     }
 
     private static void word() {
-        SignedMill mill = Due.with(big(0x123456789L), big(-0x123456789L), Due.two(64).negate(), GREATEST, GREATEST.negate());
+        Mill mill = Due.with(big(0x123456789L), big(-0x123456789L), Due.two(64).negate(), GREATEST, GREATEST.negate());
         int[][] rows = {{0, 0, 0x23456789}, {0, 1, 1}, {0, 2, 0}, {1, 0, -0x23456789}, {1, 1, -2}, {1, 2, -1}, {2, 0, 0}, {2, 1, 0}, {2, 2, -1},
             {3, 0, -1}, {3, 2047, -1}, {3, 2048, 0}, {4, 0, 1}, {4, 1, 0}, {4, 2047, 0}, {4, 2048, -1}, {4, Integer.MAX_VALUE, -1},
             {3, Integer.MAX_VALUE, 0}, {5, 0, 0}, {4, -1, 0}, {4, Integer.MIN_VALUE, 0}};
@@ -612,5 +624,20 @@ public final class PromiseTests {
         for (int r : NO_REGISTERS) {
             Due.same("word of register " + r, mill.word(r, 0), 0);
         }
+    }
+
+    /** The example of README.md. */
+    private static void readme() {
+        Mill mill = new Mill();
+        Due.same("put", mill.put(0, 3), true);
+        Due.same("power", mill.power(1, 0, 200), true);
+        Due.same("put", mill.put(2, 1000003), true);
+        Due.same("inverse", mill.inverse(3, 1, 2), true);
+        Due.same("word", mill.word(3, 0), 219438);
+        Due.same("put", mill.put(4, -7), true);
+        BigInteger pushed = Due.two(64).multiply(big(7)).add(big(0x0123456789ABCDEFL)).negate();
+        done("push", mill.push(4, 0x0123456789ABCDEFL), mill, 4, pushed);
+        done("divide, rest", mill.divide(5, 6, 4, 0, true), mill, 6, 2);
+        refused("divide by 0", mill, x -> x.divide(5, 6, 4, 7, true));
     }
 }

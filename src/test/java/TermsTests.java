@@ -10,7 +10,7 @@ public final class TermsTests {
     private static final BigInteger LEAST = GREATEST.negate();
 
     private interface Doing {
-        boolean on(SignedMill mill, int[] r);
+        boolean on(Mill mill, int[] r);
     }
 
     /** A call with its registers: first those into which it puts numbers, then those out of which it takes them. */
@@ -84,9 +84,9 @@ public final class TermsTests {
 
     /** What stands in other registers does not matter: with all registers in reverse order, the same comes out. */
     private static void mirrored(Call call, int[] r) {
-        SignedMill mill = Look.filled();
-        SignedMill mirror = Look.filled(x -> {
-            SignedMill primes = Look.filled();
+        Mill mill = Look.filled();
+        Mill mirror = Look.filled(x -> {
+            Mill primes = Look.filled();
             for (int k = 0; k < 16; k++) {
                 Look.same("mirror", x.put(15 - k, primes.word(k, 0)), true);
             }
@@ -105,7 +105,7 @@ public final class TermsTests {
 
     private static void zeroAtFirst() {
         Look.sentence("Each has a NUMBER .. 0 at first.");
-        SignedMill mill = new SignedMill();
+        Mill mill = new Mill();
         for (int r = 0; r < 16; r++) {
             Look.holds("at first", mill, r, 0);
             Look.same("at first, compared", mill.compare(r, 15 - r), 0);
@@ -114,7 +114,7 @@ public final class TermsTests {
 
     private static void numbersToTheLimit() {
         Look.sentence("Each has a NUMBER above -2^65536 and below 2^65536");
-        SignedMill mill = new SignedMill();
+        Mill mill = new Mill();
         for (int r = 0; r < 16; r += 2) {
             Look.greatest(mill, r);
             Look.least(mill, r + 1);
@@ -128,7 +128,7 @@ public final class TermsTests {
 
     /** Calls that no greatest number makes too long. */
     private static void everyCallAtTheLimit() {
-        Consumer<SignedMill> make = x -> {
+        Consumer<Mill> make = x -> {
             Look.greatest(x, 0);
             Look.least(x, 1);
             Look.same("put", x.put(2, 0) & x.put(3, 1) & x.put(4, -1), true);
@@ -157,14 +157,14 @@ public final class TermsTests {
         atTheLimit("bit 65535 of the least to 0", make, x -> x.change(5, 1, 65535, 0), LEAST);
     }
 
-    private static void atTheLimit(String what, Consumer<SignedMill> make, Predicate<SignedMill> call, BigInteger want) {
-        SignedMill mill = Look.filled(make);
+    private static void atTheLimit(String what, Consumer<Mill> make, Predicate<Mill> call, BigInteger want) {
+        Mill mill = Look.filled(make);
         Look.done(what, call.test(mill), mill, 5, want);
     }
 
     private static void size() {
         Look.sentence("Its SIZE is its distance from 0.");
-        SignedMill mill = new SignedMill();
+        Mill mill = new Mill();
         Look.same("put", mill.put(0, Long.MIN_VALUE) & mill.put(1, -1), true);
         Look.done("-2^63's size is 2^63", mill.push(0, 0), mill, 0, Due.two(127).negate());
         Look.done("-1's size is 1", mill.push(1, 0), mill, 1, Due.two(64).negate());
@@ -172,7 +172,7 @@ public final class TermsTests {
 
     private static void bitsNotBelow() {
         Look.sentence("those of one that is not below 0 are as usual, 0 from some place on");
-        SignedMill mill = Look.filled(x -> {
+        Mill mill = Look.filled(x -> {
             Look.values(x, 0, 1, 0x80000000L, Long.MAX_VALUE);
             Look.greatest(x, 4);
         });
@@ -183,7 +183,7 @@ public final class TermsTests {
 
     private static void bitsBelow() {
         Look.sentence("those of one below 0, -x, are those of x - 1 turned over, 1 from some place on.");
-        SignedMill mill = Look.filled(x -> {
+        Mill mill = Look.filled(x -> {
             Look.values(x, -1, -2, -0x80000000L, -0x100000000L, Long.MIN_VALUE);
             Look.least(x, 5);
             Look.shifted(x, 6, -1, 64);
@@ -196,7 +196,7 @@ public final class TermsTests {
         checkWords(mill, rows);
     }
 
-    private static void checkWords(SignedMill mill, int[][] rows) {
+    private static void checkWords(Mill mill, int[][] rows) {
         for (int[] row : rows) {
             Look.same("word " + row[1] + " of " + row[0], mill.word(row[0], row[1]), row[2]);
         }
@@ -205,7 +205,7 @@ public final class TermsTests {
     private static void words() {
         Look.sentence("WORD k of it, k from 0 on, are its bits 32 * k to 32 * k + 31.");
         for (int place : new int[] {0, 1, 31, 32, 33, 63, 64, 65503, 65504, 65534, 65535}) {
-            SignedMill mill = new SignedMill();
+            Mill mill = new Mill();
             Look.shifted(mill, 0, 1, place);
             Look.same("the word of bit " + place, mill.word(0, place / 32), 1 << place % 32);
             Look.same("the word above bit " + place, mill.word(0, place / 32 + 1), 0);
@@ -223,7 +223,7 @@ public final class TermsTests {
             Look.same(call.name, call.doing.on(Look.filled(), choice(call, 1)), true);
         }
         // Done, too, where the number that is put is the one that was there.
-        SignedMill mill = new SignedMill();
+        Mill mill = new Mill();
         Look.done("0 over 0", mill.put(0, 0), mill, 0, 0);
         Look.done("0 pushed onto 0", mill.push(0, 0), mill, 0, 0);
         Look.done("-0", mill.negate(0, 0), mill, 0, 0);
@@ -264,7 +264,7 @@ public final class TermsTests {
 
     private static void tooLong() {
         Look.sentence("the SIZE of a number to be put would be above 2^65536 - 1 (push, add, take, times, shift)");
-        Consumer<SignedMill> make = x -> {
+        Consumer<Mill> make = x -> {
             Look.greatest(x, 0);
             Look.least(x, 1);
             Look.same("put", x.put(2, 1) & x.put(3, -1) & x.put(4, 2), true);
@@ -303,7 +303,7 @@ public final class TermsTests {
 
     private static void tooLongByBits() {
         Look.sentence("the SIZE of a number to be put would be above 2^65536 - 1 (logic, change)");
-        Consumer<SignedMill> make = x -> {
+        Consumer<Mill> make = x -> {
             Look.greatest(x, 0);
             Look.least(x, 1);
             Look.same("put", x.put(2, 1) & x.put(3, -1) & x.put(4, -2), true);
@@ -320,7 +320,7 @@ public final class TermsTests {
         Look.refused("has not: the least without 1", make, x -> x.logic(1, 1, 2, 3));
         Look.refused("has not: -1 without the greatest", make, x -> x.logic(3, 3, 0, 3));
         Look.refused("has not: -2^65535 without 2^65535", make, x -> x.logic(10, 5, 6, 3));
-        SignedMill mill = Look.filled(make);
+        Mill mill = Look.filled(make);
         Look.done("one bit less: -1 without 2^65535 - 1", mill.logic(10, 3, 7, 3), mill, 10, Due.two(65535).negate());
         Look.done("one bit less: just one of -1 and 2^65535", mill.logic(10, 3, 6, 2), mill, 10, Due.two(65535).negate().subtract(ONE));
 
@@ -338,7 +338,7 @@ public final class TermsTests {
 
     private static void tooLongByPowers() {
         Look.sentence("the SIZE of a number to be put would be above 2^65536 - 1 (power)");
-        Consumer<SignedMill> make = x -> {
+        Consumer<Mill> make = x -> {
             Look.values(x, 2, -2, 3, 4, 0, 0, 0);
             Look.shifted(x, 4, 1, 32768);
             Look.shifted(x, 5, -1, 32768);
@@ -357,7 +357,7 @@ public final class TermsTests {
         Look.refused("the greatest to 2", make, x -> x.power(10, 6, 2));
         Look.refused("2 to the most", make, x -> x.power(10, 0, Integer.MAX_VALUE));
         Look.refused("the greatest to the most", make, x -> x.power(6, 6, Integer.MAX_VALUE));
-        SignedMill mill = Look.filled(make);
+        Mill mill = Look.filled(make);
         Look.done("2 to 65535", mill.power(10, 0, 65535), mill, 10, Due.two(65535));
         Look.done("-2 to 65535", mill.power(10, 1, 65535), mill, 10, Due.two(65535).negate());
         Look.done("3 to 41348", mill.power(10, 2, 41348), mill, 10, BigInteger.valueOf(3).pow(41348));
@@ -381,15 +381,15 @@ public final class TermsTests {
         }
     }
 
-    private static void longNumbers(SignedMill mill) {
+    private static void longNumbers(Mill mill) {
         boolean done = mill.spread(0, 0x9E3779B97F4A7C15L, 7) & mill.spread(1, 0x123456789ABCDEFL, 4) & mill.spread(2, -0x0F0F0F0F0F0F0F1L, 5);
         Look.same("long numbers", done & mill.negate(2, 2), true);
     }
 
     /** The call does the same as one that puts into registers apart from those that it takes out of. */
-    private static void likeApart(Call call, int[] r, Consumer<SignedMill> make) {
-        SignedMill mill = Look.filled(make);
-        SignedMill apart = Look.filled(make);
+    private static void likeApart(Call call, int[] r, Consumer<Mill> make) {
+        Mill mill = Look.filled(make);
+        Mill apart = Look.filled(make);
         int[] away = r.clone();
         for (int i = 0; i < call.puts; i++) {
             away[i] = 14 + i;
@@ -412,14 +412,14 @@ public final class TermsTests {
 
     private static void lastCall() {
         Look.sentence("An object is used for at most 512 calls after it has been made");
-        SignedMill mill = new SignedMill();
+        Mill mill = new Mill();
         boolean done = mill.put(0, 1);
         for (int call = 2; call <= 511; call++) {
             done &= mill.add(0, 0, 0);
         }
         Look.same("the 512th call", mill.length(0), 511);
         Look.same("all before", done, true);
-        mill = new SignedMill();
+        mill = new Mill();
         done = mill.put(0, -1);
         for (int call = 2; call <= 511; call++) {
             done &= mill.push(0, call);
